@@ -667,14 +667,18 @@ public final class OutsideAsks {
     /** The service outside: it knows nothing of restarts. */
     private static final class Service {
         private final long[] keys = new long[MOST_ITEMS];
-        private final int[] counts = new int[MOST_ITEMS];
-        private int size = 0;
-        private final boolean[] answered = new boolean[MOST_ITEMS];
+        /** How often it acted for each row; the count of a key is the sum over the key's rows. */
+        private final int[] acts = new int[MOST_ITEMS];
         private final long[] latestAnswers = new long[MOST_ITEMS];
 
         int countOf(long key) {
-            int place = find(key);
-            return place == NONE ? 0 : counts[place];
+            int sum = 0;
+            for (int i = 0; i < MOST_ITEMS; i++) {
+                if (keys[i] == key) {
+                    sum += acts[i];
+                }
+            }
+            return sum;
         }
 
         long answerTo(int row) {
@@ -683,38 +687,13 @@ public final class OutsideAsks {
 
         /** Whether it acted; answerTo() has the answer then. */
         boolean takeAsk(int row, long key, long value, boolean knowsNumbers) {
-            if (row < 0 || row >= MOST_ITEMS || (knowsNumbers && answered[row])) {
+            if (row < 0 || row >= MOST_ITEMS || (knowsNumbers && acts[row] > 0)) {
                 return false;
             }
-            latestAnswers[row] = value + countOnce(key);
-            answered[row] = true;
+            keys[row] = key;
+            acts[row]++;
+            latestAnswers[row] = value + countOf(key);
             return true;
-        }
-
-        private int countOnce(long key) {
-            int place = find(key);
-            if (place == NONE) {
-                place = addKey(key);
-            }
-            counts[place]++;
-            return counts[place];
-        }
-
-        /** There are at most as many keys as rows, so there is always a place. */
-        private int addKey(long key) {
-            int place = Math.min(size, MOST_ITEMS - 1);
-            keys[place] = key;
-            size = place + 1;
-            return place;
-        }
-
-        private int find(long key) {
-            for (int i = 0; i < size; i++) {
-                if (keys[i] == key) {
-                    return i;
-                }
-            }
-            return NONE;
         }
     }
 

@@ -5,6 +5,7 @@ public final class ArriveTest {
         anAnswerSettlesOnce();
         inTheQueueToo();
         aFreedPlaceIsTaken();
+        sixteenAtOnce();
         ruleFails();
         ruleIs0();
         ruleAsksAgain();
@@ -18,6 +19,7 @@ public final class ArriveTest {
         notKept();
         inPlaceOfOneForTheKey();
         eightAreKept();
+        eachCanGiveWay();
         nothingElseIsKept();
         Due.end();
     }
@@ -59,6 +61,27 @@ public final class ArriveTest {
         Due.due("arrive(0)", x.arrive(0), 1);
         Due.dueAll("states", Ask.items(x, 0), "3 1 0");
         Due.dueAll("asks", Ask.line(x, 0), "1");
+    }
+
+    private static void sixteenAtOnce() {
+        OutsideAsks x = new OutsideAsks(16, 0);
+        x.set(2, 1);
+        for (int i = 0; i < 17; i++) {
+            x.row(i, 0);
+        }
+        x.tick(15);
+        x.set(2, 20);
+        x.save();
+        Due.due("restart()", x.restart(), 16);
+        x.set(2, 1);
+        x.tick(3);
+        for (int row = 15; row >= 0; row--) {
+            x.serve(Ask.place(x, 0, row));
+            Due.due("arrive(0) for " + row, x.arrive(0), 1);
+        }
+        Due.due("told(2)", x.told(2), 16);
+        Due.due("told(4)", x.told(4), 1);
+        Due.due("item(16, 0)", x.item(16, 0), 1);
     }
 
     private static void ruleFails() {
@@ -289,6 +312,24 @@ public final class ArriveTest {
         Due.dueAll("in place of 2", ends(x, keys), "9 29 -1 -1 -1 -1 -1 -1");
         Due.dueAll("the others", ends(x, 101, 102, 103, 104, 105, 106), "50 50 50 10 109 109");
         Due.due("told(9)", x.told(9), 8);
+    }
+
+    /** Each of the eight in its turn has the least END, or the least key of one END. */
+    private static void eachCanGiveWay() {
+        for (int last = 0; last < 8; last++) {
+            OutsideAsks x = new OutsideAsks(1, 0);
+            OutsideAsks y = new OutsideAsks(1, 0);
+            for (int i = 0; i < 8; i++) {
+                keepOne(x, i, i == last ? 3 : 4);
+                keepOne(y, i == last ? -1 : i, 4);
+            }
+            keepOne(x, 50, 1);
+            keepOne(y, 50, 1);
+            Due.due("kept(" + last + ") with the least END", x.kept(last), -1);
+            Due.due("kept(-1), the least key, in place " + last, y.kept(-1), -1);
+            Due.due("told(9)", x.told(9), 8);
+            Due.due("told(9)", y.told(9), 8);
+        }
     }
 
     private static void nothingElseIsKept() {

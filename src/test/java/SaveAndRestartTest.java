@@ -48,6 +48,9 @@ public final class SaveAndRestartTest {
         Due.due("restart()", x.restart(), 0);
         Due.dueAll("states", Ask.items(x, 0), "4 4 4 4");
         Due.dueAll("told", Ask.told(x), "0 4 0 0 0 0 0 2 0 0 3 3 1");
+        x.tick(50);
+        Due.dueAll("states when they would be due", Ask.items(x, 0), "4 4 4 4");
+        Due.dueAll("told", Ask.told(x), "50 4 0 0 0 0 0 2 0 0 3 0 1");
         OutsideAsks y = new OutsideAsks(1, 1);
         Due.due("restart() of a new one", y.restart(), 0);
         Due.due("told(12)", y.told(12), 1);
