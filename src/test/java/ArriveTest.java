@@ -10,6 +10,7 @@ public final class ArriveTest {
         ruleIs0();
         ruleAsksAgain();
         ruleAsksAgainInTheQueue();
+        ruleFailsInTheQueue();
         ruleAsksAgainWithoutATryLeft();
         theRuleIsThatOfTheArrival();
         othersAreLeftAlone();
@@ -131,11 +132,9 @@ public final class ArriveTest {
         Due.due("told(6)", x.told(6), 2);
         x.tick(2);
         Due.dueAll("asks: behind the others", Ask.line(x, 0), "1 0");
-        x.set(4, 0);
-        queuedOneFailsByRule0();
     }
 
-    private static void queuedOneFailsByRule0() {
+    private static void ruleFailsInTheQueue() {
         OutsideAsks x = new OutsideAsks(2, 0);
         x.set(2, 1);
         x.set(0, 1);
