@@ -1,0 +1,72 @@
+import java.io.IOException;
+import java.nio.file.Files;
+import java.nio.file.Path;
+import java.util.ArrayList;
+import java.util.LinkedHashMap;
+import java.util.List;
+import java.util.Map;
+
+/** The document's sections, so that the sentence that a test is named by can be found there. */
+final class Doc {
+    private static final Path PLACE = Path.of("..", "shared", "DOC.md");
+    /** Each section's text under its short name ("Terms", "Promise 5"), on one line. */
+    private static final Map<String, String> SECTIONS = read();
+
+    private Doc() {
+    }
+
+    private static Map<String, String> read() {
+        Map<String, String> sections = new LinkedHashMap<>();
+        for (String part : text().split("(?m)^## ")) {
+            String[] headAndText = part.split("\n", 2);
+            if (headAndText.length == 2) {
+                sections.put(headAndText[0].replaceAll(":.*", "").trim(), onOneLine(headAndText[1]));
+            }
+        }
+        return sections;
+    }
+
+    private static String text() {
+        try {
+            return isThere() ? Files.readString(PLACE) : "";
+        } catch (IOException e) {
+            throw new IllegalStateException("the document cannot be read at " + PLACE, e);
+        }
+    }
+
+    /** The program can be tested without it; then only the tests' names are not looked up. */
+    static boolean isThere() {
+        return Files.exists(PLACE);
+    }
+
+    /** Without the fences of its blocks and without the signature that a promise begins with. */
+    private static String onOneLine(String text) {
+        return text.replaceAll("```\\w*", " ").replaceAll("`[^`]*`:", " ").replaceAll("\\s+", " ").trim();
+    }
+
+    static List<String> names() {
+        return new ArrayList<>(SECTIONS.keySet());
+    }
+
+    /** How often a section says a sentence. */
+    static int says(String section, String sentence) {
+        String text = SECTIONS.getOrDefault(section, "");
+        int times = 0;
+        for (int at = text.indexOf(sentence); at >= 0; at = text.indexOf(sentence, at + 1)) {
+            times++;
+        }
+        return times;
+    }
+
+    /** What a section says beside the sentences. */
+    static String without(String section, List<String> sentences) {
+        StringBuilder left = new StringBuilder(SECTIONS.getOrDefault(section, ""));
+        for (String sentence : sentences) {
+            int at = SECTIONS.getOrDefault(section, "").indexOf(sentence);
+            for (int i = at; at >= 0 && i < at + sentence.length(); i++) {
+                left.setCharAt(i, ' ');
+            }
+        }
+        return left.toString().replaceAll("\\s+", " ").trim();
+    }
+}
