@@ -12,17 +12,31 @@ final class Due {
 
     static void due(String call, long got, long want) {
         if (got != want) {
-            wrong++;
-            System.out.println(about + ": " + call + " answered " + got + ", due is " + want);
+            tell(call, Long.toString(got), Long.toString(want));
         }
     }
 
     /** Several items' answers to one question, as one row. */
     static void dueAll(String call, String got, String want) {
         if (!got.equals(want)) {
-            wrong++;
-            System.out.println(about + ": " + call + " answered " + got + ", due is " + want);
+            tell(call, got, want);
         }
+    }
+
+    private static void tell(String call, String got, String want) {
+        wrong++;
+        System.out.println(testName() + about + ": " + call + " answered " + got + ", due is " + want);
+    }
+
+    /** The function that Sentences was given, if there is one. */
+    private static String testName() {
+        StackTraceElement[] open = new Throwable().getStackTrace();
+        for (int i = 1; i < open.length; i++) {
+            if (open[i].getClassName().equals("Sentences") && !open[i - 1].getClassName().equals("Due")) {
+                return open[i - 1].getClassName() + "." + open[i - 1].getMethodName() + ": ";
+            }
+        }
+        return "";
     }
 
     static void end() {

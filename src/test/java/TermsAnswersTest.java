@@ -47,6 +47,7 @@ public final class TermsAnswersTest {
         String again = "1: nothing, if it is in THE QUEUE; else TRIED AGAIN, but SETTLED (2), not (3), if it has no TRY left.";
         Sentences.test(HERE, again, TermsAnswersTest::rule1InTheQueueIsNothing);
         Sentences.test(HERE, again, TermsAnswersTest::rule1InTheQueueIsNothingAlsoWithoutATryLeft);
+        Sentences.test(HERE, again, TermsAnswersTest::rule1InTheQueueLeavesItItsPlaceThere);
         Sentences.test(HERE, again, TermsAnswersTest::rule1TriesAgain);
         Sentences.test(HERE, again, TermsAnswersTest::rule1WithTheLastTry);
         Sentences.test(HERE, again, TermsAnswersTest::rule1WithoutATryLeft);
@@ -342,6 +343,19 @@ public final class TermsAnswersTest {
         Due.due("arrive(0) for one in the queue", r.arrive(0), 0);
         Due.dueAll("states", r.states(), "1 1");
         Due.due("told(6)", r.told(6), 2);
+    }
+
+    private static void rule1InTheQueueLeavesItItsPlaceThere() {
+        Run r = Run.with(3, 0, 1, 2, 3);
+        r.set(4, 1);
+        r.refuse(1, 1);
+        r.loseAll(0);
+        r.set(2, 1);
+        r.tick(10);
+        Due.dueAll("queued", r.queued(), "0 1 1");
+        Due.due("arrive(0) for row 1, the first in the queue", r.arrive(0), 0);
+        r.tick(2);
+        Due.dueAll("asks", r.asks(), "0 1 2");
     }
 
     private static void rule1TriesAgain() {

@@ -14,6 +14,7 @@ public final class TermsServiceTest {
         Sentences.test(HERE, knows, TermsServiceTest::answeredBeforeIsAnsweredTheSame);
         Sentences.test(HERE, knows, TermsServiceTest::answeredWithACauseIsNotAnswered);
         Sentences.test(HERE, knows, TermsServiceTest::theLatestTimeOfSeveral);
+        Sentences.test(HERE, knows, TermsServiceTest::whatItKnewItKnowsAgain);
         Sentences.test(HERE, knows, TermsServiceTest::aCauseBetweenIsNoSuchTime);
         Sentences.test(HERE, knows, TermsServiceTest::anAnswerThatGotLostWasGiven);
         Sentences.test(HERE, knows, TermsServiceTest::anotherRowOfTheKeyIsAnotherNumber);
@@ -67,6 +68,18 @@ public final class TermsServiceTest {
         Due.due("arrive(3)", r.arrive(3), 1);
         Due.due("value(0)", r.value(0), 103);
         Due.due("count(1)", r.count(1), 3);
+    }
+
+    private static void whatItKnewItKnowsAgain() {
+        Run r = Run.with(1, 0, 1);
+        r.twice(0, 0);
+        r.serve(0);
+        r.lose(1, 0);
+        r.set(7, 0);
+        r.set(7, 1);
+        Due.due("serve(0)", r.serve(0), 0);
+        Due.due("arrive(0)", r.arrive(0), 1);
+        Due.due("value(0)", r.value(0), 101);
     }
 
     private static void aCauseBetweenIsNoSuchTime() {
