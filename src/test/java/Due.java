@@ -1,9 +1,27 @@
 /** Counts and prints the answers that are not as due. */
 final class Due {
+    private static final long LONGEST_SECONDS = 300;
     private static int wrong = 0;
     private static String about = "";
 
+    static {
+        Thread watch = new Thread(Due::endWhenTooLong);
+        watch.setDaemon(true);
+        watch.start();
+    }
+
     private Due() {
+    }
+
+    /** A call that does not end is a fault, too, and must not hold up the other tests for ever. */
+    private static void endWhenTooLong() {
+        try {
+            Thread.sleep(1000 * LONGEST_SECONDS);
+        } catch (InterruptedException e) {
+            return;
+        }
+        System.out.println(about + ": not at its end behind " + LONGEST_SECONDS + " seconds");
+        Runtime.getRuntime().halt(1);
     }
 
     static void about(String what) {
