@@ -23,7 +23,6 @@ public final class OutsideAsks {
     private static final int RULE_FAILS = 0, RULE_ASKS_AGAIN = 1;
 
     private static final int WAITING = 0, WORKING = 1, SETTLED = 2, OUT = 3, GONE = 4;
-    private static final int STATES = 5;
 
     private static final int ANSWERED = 0, BY_KEPT = 1, FAILED = 2, IN_VAIN = 3, BY_RULE = 4;
     private static final int MARKED = 5;
@@ -76,7 +75,7 @@ public final class OutsideAsks {
             return FULL;
         }
         items.noteRow(number, key, value);
-        live.addItem(WAITING, NONE);
+        live.addRow();
         goOn();
         return number;
     }
@@ -87,7 +86,7 @@ public final class OutsideAsks {
             return FULL;
         }
         items.noteMark(number);
-        live.addItem(SETTLED, MARKED);
+        live.addMark();
         goOn();
         return number;
     }
@@ -116,7 +115,7 @@ public final class OutsideAsks {
     }
 
     public int refuse(int k, int cause) {
-        if (!asks.has(k) || cause < 1 || cause > LAST_CAUSE) {
+        if (!asks.has(k) || !isCause(cause)) {
             return NONE;
         }
         int row = asks.rowAt(k);
@@ -218,7 +217,7 @@ public final class OutsideAsks {
     public int save() {
         saved.copyFrom(live);
         goOn();
-        return live.tally[WAITING] + live.tally[WORKING] + live.tally[SETTLED];
+        return live.waiting + working.size + live.settled;
     }
 
     public int restart() {
@@ -227,7 +226,7 @@ public final class OutsideAsks {
         askAgainAllWorking();
         restarts++;
         goOn();
-        return live.tally[WORKING];
+        return working.size;
     }
 
     public int told(int what) {
@@ -239,11 +238,11 @@ public final class OutsideAsks {
             case 2:
                 return live.outs;
             case 3:
-                return live.tally[WAITING];
+                return live.waiting;
             case 4:
-                return live.tally[WORKING];
+                return working.size;
             case 5:
-                return live.tally[SETTLED];
+                return live.settled;
             case 6:
                 return queue.size;
             case 7:
@@ -278,7 +277,7 @@ public final class OutsideAsks {
 
     private void startWaitingRows() {
         for (int i = 0; i < live.items; i++) {
-            if (live.tally[WAITING] == 0 || live.tally[WORKING] >= most) {
+            if (live.waiting == 0 || working.size >= most) {
                 return;
             }
             if (live.stateOf(i) == WAITING) {
@@ -312,7 +311,7 @@ public final class OutsideAsks {
     /** One pass is enough: an item that goes out makes way only for items behind it. */
     private void letItemsOut() {
         boolean allAheadOut = true;
-        for (int i = 0; i < live.items && live.tally[SETTLED] > 0; i++) {
+        for (int i = 0; i < live.items && live.settled > 0; i++) {
             int state = live.stateOf(i);
             if (state == OUT || state == GONE) {
                 continue;
@@ -376,7 +375,7 @@ public final class OutsideAsks {
     }
 
     private boolean takeCause(int row, int cause) {
-        int rule = settings[BEFORE_RULES + cause];
+        int rule = ruleOf(cause);
         if (rule == RULE_ASKS_AGAIN) {
             return queue.find(row) == NONE && tryAgain(row, FAILED, cause);
         }
@@ -386,6 +385,14 @@ public final class OutsideAsks {
             settle(row, BY_RULE, 0L);
         }
         return true;
+    }
+
+    private int ruleOf(int cause) {
+        return isCause(cause) ? settings[BEFORE_RULES + cause] : RULE_FAILS;
+    }
+
+    private boolean isCause(int cause) {
+        return cause >= 1 && cause <= LAST_CAUSE;
     }
 
     private void settle(int row, int result, long value) {
@@ -462,10 +469,11 @@ public final class OutsideAsks {
         private final int[] results = new int[MOST_ITEMS];
         private final int[] tries = new int[MOST_ITEMS];
         private final long[] settledValues = new long[MOST_ITEMS];
-        /** How many items are in each state. */
-        private final int[] tally = new int[STATES];
         private int items = 0;
         private int outs = 0;
+        private int waiting = 0;
+        /** Those that are settled and not out. */
+        private int settled = 0;
 
         boolean hasItem(int i) {
             return i >= 0 && i < items;
@@ -487,20 +495,29 @@ public final class OutsideAsks {
             return hasItem(i) ? settledValues[i] : 0L;
         }
 
-        void addItem(int state, int result) {
-            if (items >= MOST_ITEMS) {
-                return;
+        void addRow() {
+            if (items < MOST_ITEMS) {
+                states[items] = WAITING;
+                results[items] = NONE;
+                items++;
+                waiting++;
             }
-            states[items] = state;
-            results[items] = result;
-            tally[state]++;
-            items++;
+        }
+
+        void addMark() {
+            if (items < MOST_ITEMS) {
+                states[items] = SETTLED;
+                results[items] = MARKED;
+                items++;
+                settled++;
+            }
         }
 
         void startTrying(int i) {
             if (hasItem(i)) {
-                moveTo(i, WORKING);
+                states[i] = WORKING;
                 tries[i] = 1;
+                waiting--;
             }
         }
 
@@ -511,24 +528,24 @@ public final class OutsideAsks {
         }
 
         void settleRow(int i, int result, long value) {
-            if (hasItem(i)) {
-                moveTo(i, SETTLED);
-                results[i] = result;
-                settledValues[i] = value;
+            if (!hasItem(i)) {
+                return;
             }
+            if (states[i] == WAITING) {
+                waiting--;
+            }
+            states[i] = SETTLED;
+            results[i] = result;
+            settledValues[i] = value;
+            settled++;
         }
 
         void goOut(int i) {
             if (hasItem(i)) {
-                moveTo(i, OUT);
+                states[i] = OUT;
+                settled--;
                 outs++;
             }
-        }
-
-        private void moveTo(int i, int state) {
-            tally[states[i]]--;
-            tally[state]++;
-            states[i] = state;
         }
 
         void copyFrom(Progress other) {
@@ -540,21 +557,28 @@ public final class OutsideAsks {
         void goBackTo(Progress before) {
             copyItems(before);
             for (int i = before.items; i < items; i++) {
+                becomeGone(i);
+            }
+        }
+
+        private void becomeGone(int i) {
+            if (hasItem(i)) {
                 states[i] = GONE;
                 results[i] = NONE;
                 tries[i] = 0;
                 settledValues[i] = 0L;
             }
-            tally[GONE] += items - before.items;
         }
 
+        /** The places behind the last item are copied, too: nothing was ever written there. */
         private void copyItems(Progress other) {
-            System.arraycopy(other.states, 0, states, 0, other.items);
-            System.arraycopy(other.results, 0, results, 0, other.items);
-            System.arraycopy(other.tries, 0, tries, 0, other.items);
-            System.arraycopy(other.settledValues, 0, settledValues, 0, other.items);
-            System.arraycopy(other.tally, 0, tally, 0, STATES);
+            System.arraycopy(other.states, 0, states, 0, MOST_ITEMS);
+            System.arraycopy(other.results, 0, results, 0, MOST_ITEMS);
+            System.arraycopy(other.tries, 0, tries, 0, MOST_ITEMS);
+            System.arraycopy(other.settledValues, 0, settledValues, 0, MOST_ITEMS);
             outs = other.outs;
+            waiting = other.waiting;
+            settled = other.settled;
         }
     }
 
@@ -609,7 +633,8 @@ public final class OutsideAsks {
             if (k < 0 || k >= size) {
                 return;
             }
-            System.arraycopy(rows, k + 1, rows, k, size - k - 1);
+            int behind = size - k - 1;
+            System.arraycopy(rows, k + 1, rows, k, behind);
             size--;
         }
 
@@ -716,9 +741,11 @@ public final class OutsideAsks {
 
         void keep(long key, long value, int end) {
             int place = placeFor(key);
-            keys[place] = key;
-            values[place] = value;
-            ends[place] = end;
+            if (place >= 0 && place < MOST_KEPT) {
+                keys[place] = key;
+                values[place] = value;
+                ends[place] = end;
+            }
         }
 
         void forgetAll() {

@@ -5,25 +5,35 @@ import java.util.ArrayList;
 import java.util.LinkedHashMap;
 import java.util.List;
 import java.util.Map;
+import java.util.regex.Matcher;
+import java.util.regex.Pattern;
 
 /** The document's sections, so that the sentence that a test is named by can be found there. */
 final class Doc {
     private static final Path PLACE = Path.of("..", "shared", "DOC.md");
+    private static final Pattern SIGNATURE = Pattern.compile("`([^`]*)`:");
     /** Each section's text under its short name ("Terms", "Promise 5"), on one line. */
-    private static final Map<String, String> SECTIONS = read();
+    private static final Map<String, String> SECTIONS = new LinkedHashMap<>();
+    /** The call that each promise is of. */
+    private static final Map<String, String> SIGNATURES = new LinkedHashMap<>();
+
+    static {
+        read();
+    }
 
     private Doc() {
     }
 
-    private static Map<String, String> read() {
-        Map<String, String> sections = new LinkedHashMap<>();
+    private static void read() {
         for (String part : text().split("(?m)^## ")) {
             String[] headAndText = part.split("\n", 2);
             if (headAndText.length == 2) {
-                sections.put(headAndText[0].replaceAll(":.*", "").trim(), onOneLine(headAndText[1]));
+                String name = headAndText[0].replaceAll(":.*", "").trim();
+                SECTIONS.put(name, onOneLine(headAndText[1]));
+                Matcher signature = SIGNATURE.matcher(headAndText[1]);
+                SIGNATURES.put(name, signature.find() ? signature.group(1) : "");
             }
         }
-        return sections;
     }
 
     private static String text() {
@@ -41,11 +51,15 @@ final class Doc {
 
     /** Without the fences of its blocks and without the signature that a promise begins with. */
     private static String onOneLine(String text) {
-        return text.replaceAll("```\\w*", " ").replaceAll("`[^`]*`:", " ").replaceAll("\\s+", " ").trim();
+        return text.replaceAll("```\\w*", " ").replaceAll(SIGNATURE.pattern(), " ").replaceAll("\\s+", " ").trim();
     }
 
     static List<String> names() {
         return new ArrayList<>(SECTIONS.keySet());
+    }
+
+    static String signature(String section) {
+        return SIGNATURES.getOrDefault(section, "");
     }
 
     /** How often a section says a sentence. */

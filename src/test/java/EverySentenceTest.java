@@ -1,7 +1,7 @@
 import java.io.File;
 import java.util.Arrays;
 
-/** No sentence of the terms and of the promises is without a test that is named by it. */
+/** No sentence of the document is without a test that is named by it, but for what is not promised. */
 public final class EverySentenceTest {
     private static final int PROMISES = 19;
 
@@ -11,11 +11,13 @@ public final class EverySentenceTest {
             return;
         }
         Sentences.onlyNote();
-        String[] files = new File("src/test/java").list((dir, name) -> name.matches("(Terms|Promise).*Test\\.java"));
+        String[] files = new File("src/test/java").list((dir, name) -> name.matches("(WhatItIs|Face|Terms|Promise).*Test\\.java"));
         Arrays.sort(files);
         for (String file : files) {
             Class.forName(file.replace(".java", "")).getDeclaredMethod("all").invoke(null);
         }
+        isWholly("What it is");
+        isWholly("The public face");
         isWholly("Terms");
         for (int promise = 1; promise <= PROMISES; promise++) {
             isWholly("Promise " + promise);

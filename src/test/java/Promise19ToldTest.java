@@ -12,6 +12,12 @@ public final class Promise19ToldTest {
         Sentences.test(HERE, "1 ITEMS,", Promise19ToldTest::items);
         Sentences.test(HERE, "2 how many went OUT,", Promise19ToldTest::howManyWentOut);
         Sentences.test(HERE, "3 WAITING, 4 WORKING, 5 SETTLED ones that are not OUT,", Promise19ToldTest::states);
+        Sentences.test(HERE, "3 WAITING, 4 WORKING, 5 SETTLED ones that are not OUT,",
+            Promise19ToldTest::oneThatIsSettledByAKeptAnswer);
+        Sentences.test(HERE, "3 WAITING, 4 WORKING, 5 SETTLED ones that are not OUT,",
+            Promise19ToldTest::thoseThatAreSettledOtherwise);
+        Sentences.test(HERE, "3 WAITING, 4 WORKING, 5 SETTLED ones that are not OUT,",
+            Promise19ToldTest::asSavedBehindARestart);
         Sentences.test(HERE, "6 how many are in THE QUEUE,", Promise19ToldTest::queue);
         Sentences.test(HERE, "7 and 8 asks and answers under way,", Promise19ToldTest::underWay);
         Sentences.test(HERE, "9 how many answers are KEPT,", Promise19ToldTest::kept);
@@ -75,6 +81,52 @@ public final class Promise19ToldTest {
         Due.due("told(3) of gone ones", r.told(3), 0);
         Due.due("told(4) of gone ones", r.told(4), 0);
         Due.due("told(5) of gone ones", r.told(5), 0);
+    }
+
+    private static void told345(Run r, int waiting, int working, int settled) {
+        Due.due("told(3)", r.told(3), waiting);
+        Due.due("told(4)", r.told(4), working);
+        Due.due("told(5)", r.told(5), settled);
+        Due.due("save(), which counts all of them", r.save(), waiting + working + settled);
+    }
+
+    private static void oneThatIsSettledByAKeptAnswer() {
+        Run r = new Run(2, 1);
+        r.keep(1, 5);
+        r.rows(2, 1);
+        Due.dueAll("states", r.states(), "3 1 2");
+        told345(r, 0, 1, 1);
+        r.answer(1);
+        Due.dueAll("states", r.states(), "3 3 3");
+        told345(r, 0, 0, 0);
+        r.rows(1);
+        Due.dueAll("states", r.states(), "3 3 3 3");
+        told345(r, 0, 0, 0);
+    }
+
+    private static void thoseThatAreSettledOtherwise() {
+        Run r = Run.with(4, 1, 1, 2, 3, 4, 5);
+        r.set(5, 2);
+        r.set(1, 1);
+        r.fail(2, 1);
+        told345(r, 0, 4, 1);
+        r.fail(1, 2);
+        told345(r, 0, 3, 2);
+        r.tick(10);
+        Due.dueAll("results", r.results(), "3 4 2 3 3");
+        told345(r, 0, 0, 0);
+    }
+
+    private static void asSavedBehindARestart() {
+        Run r = Run.with(2, 1, 1, 2, 3, 4);
+        r.answer(1);
+        told345(r, 1, 2, 1);
+        r.rows(5, 6);
+        r.answer(0);
+        Due.due("told(3)", r.told(3), 2);
+        Due.due("told(5)", r.told(5), 0);
+        r.restart();
+        told345(r, 1, 2, 1);
     }
 
     private static void queue() {
